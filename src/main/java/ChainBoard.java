@@ -159,7 +159,6 @@ public final class ChainBoard {
      */
     private static final class Bank {
         static final int B = 0;
-        static final int L = 5;
         static final int F = 6;
         static final int A = 7;
 
@@ -200,12 +199,10 @@ public final class ChainBoard {
         int pc = 0;
         int page = 0;
 
-        void exchange(int from, int to) {
-            for (int i = from; i <= to && i <= Bank.A; i++) {
-                int kept = now.bytes[i];
-                now.bytes[i] = second.bytes[i];
-                second.bytes[i] = kept;
-            }
+        void exchange(int p) {
+            int kept = now.pair(p);
+            now.putPair(p, second.pair(p));
+            second.putPair(p, kept);
         }
 
         int numbered(int which) {
@@ -822,7 +819,7 @@ public final class ChainBoard {
                 case 0:
                     return 4;
                 case 1:
-                    registers.exchange(Bank.F, Bank.A);
+                    registers.exchange(Bank.AF);
                     return 4;
                 case 2:
                     r[Bank.B] = r[Bank.B] - 1 & 255;
@@ -1028,7 +1025,9 @@ public final class ChainBoard {
                     registers.pc = pop();
                     return 10;
                 case 1:
-                    registers.exchange(Bank.B, Bank.L);
+                    registers.exchange(Bank.BC);
+                    registers.exchange(Bank.DE);
+                    registers.exchange(Bank.HL);
                     return 4;
                 case 2:
                     registers.pc = now.pair(Bank.HL);

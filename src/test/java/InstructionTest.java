@@ -19,9 +19,11 @@ public final class InstructionTest {
         exchanges();
         copies();
         copiesOverItself();
+        copiesOverTheEnd();
         special();
         addressesWrap();
         ports();
+        outReachesItsOwnAlone();
         check.end();
     }
 
@@ -316,6 +318,22 @@ public final class InstructionTest {
         check.due("instructions", x.passed(1), 1);
     }
 
+    private static void copiesOverTheEnd() {
+        for (int pc : new int[] {0xffff, 0xfffe, 0, 1, 0x7d}) {
+            ChainBoard x = new ChainBoard();
+            x.poke(pc & 1023, 0xed);
+            x.poke(pc + 1 & 1023, 0xb0);
+            x.set(1, 2);
+            x.set(2, 0x200);
+            x.set(3, 0x300);
+            x.set(9, pc);
+            check.due("copy at " + pc, x.run(1), 21);
+            check.due("PC", x.register(9), pc);
+            check.due("copy at " + pc, x.run(1), 16);
+            check.due("PC", x.register(9), pc + 2 & 0xffff);
+        }
+    }
+
     private static void special() {
         ChainBoard x = filled(0xed, 0x47, 0x76);
         x.run(1);
@@ -379,5 +397,36 @@ public final class InstructionTest {
         check.due("IN from 3", x.register(0), 0xffd7);
         Program.steps(x, 2);
         check.due("IN from 5", x.register(0), 0xffd7);
+    }
+
+    private static void outReachesItsOwnAlone() {
+        for (int port = 0; port < 6; port++) {
+            ChainBoard x = new Program().out(port, 0x4e).load();
+            Program.steps(x, 2);
+            for (int d = 0; d < 4; d++) {
+                for (int what = 0; what < 6; what++) {
+                    check.due("OUT " + port + ": device(" + d + ", " + what + ")", x.device(d, what),
+                            behindOut(port, d, what));
+                }
+            }
+        }
+    }
+
+    /** 4E is a base for both channels, a latched byte that makes ready, or a vector. */
+    private static int behindOut(int port, int d, int what) {
+        boolean channel = d < 2;
+        if (channel) {
+            return what == 2 ? (port < 2 ? 0x48 : 0) + 2 * d : 0;
+        }
+        if (port / 2 != d - 1) {
+            return 0;
+        }
+        boolean data = port % 2 == 0;
+        switch (what) {
+            case 2: return data ? 0 : 0x4e;
+            case 4: return data ? 1 : 0;
+            case 5: return data ? 0x4e : 0;
+            default: return 0;
+        }
     }
 }

@@ -70,10 +70,14 @@ public final class NewObjectTest {
     }
 
     private static void directionsAreOutputs() {
-        ChainBoard x = new Program().out(2, 0x5a).out(3, 0xcf).code(0xdb, 2).load();
-        x.lines(0, 0xff);
-        Program.steps(x, 5);
-        check.due("IN 2 before directions", x.register(0), 0x5a00);
+        for (int p = 0; p < 2; p++) {
+            for (int latch : new int[] {0, 0x5a, 0xff}) {
+                ChainBoard x = new Program().out(2 + 2 * p, latch).out(3 + 2 * p, 0xcf).code(0xdb, 2 + 2 * p).load();
+                x.lines(p, latch ^ 0xff);
+                Program.steps(x, 5);
+                check.due("IN before directions", x.register(0), latch << 8);
+            }
+        }
     }
 
     private static void nothingIsDueOrAllowed() {
