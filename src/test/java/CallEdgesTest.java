@@ -310,7 +310,9 @@ public final class CallEdgesTest {
                         .code(0xdb, data, 0xdb, data).load();
                 Program.steps(x, 4);
                 check.due("not ready", x.strobe(p, 0x21), false);
+                check.due("no request by a refused one", x.device(2 + p, 0), 0);
                 x.run(1);
+                check.due("nothing received by a refused one", x.register(0) >> 8, 0);
                 check.due("ready", x.device(2 + p, 4), 1);
                 check.due("strobe", x.strobe(p, 0x7fffff5a), true);
                 check.due("ready no more", x.device(2 + p, 4), 0);
@@ -328,15 +330,19 @@ public final class CallEdgesTest {
         for (int p = 0; p < 2; p++) {
             for (int may = 0; may < 2; may++) {
                 int data = 2 + 2 * p;
-                ChainBoard x = new Program().out(data + 1, may << 7 | 3).out(data, 0x6b).load();
+                ChainBoard x = new Program().out(data + 1, may << 7 | 3).out(data, 0x6b)
+                        .out(data + 1, 0x4f).code(0xdb, data).load();
                 Program.steps(x, 2);
-                check.due("not ready", x.strobe(p, 0), false);
+                check.due("not ready", x.strobe(p, 0x11), false);
+                check.due("no request by a refused one", x.device(2 + p, 0), 0);
                 Program.steps(x, 2);
                 check.due("strobe", x.strobe(p, 0x11), true);
                 check.due("ready no more", x.device(2 + p, 4), 0);
                 check.due("requesting", x.device(2 + p, 0), may);
                 check.due("latch", x.device(2 + p, 5), 0x6b);
-                check.due("strobe again", x.strobe(p, 0), false);
+                check.due("strobe again", x.strobe(p, 0x22), false);
+                Program.steps(x, 3);
+                check.due("v is not received", x.register(0) >> 8, 0);
             }
         }
     }

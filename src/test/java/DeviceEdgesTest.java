@@ -5,6 +5,7 @@ public final class DeviceEdgesTest {
     public static void main(String[] args) {
         enableIsOffAtFirst();
         modeIsOneAtFirst();
+        lookBehindEach();
         noLookBehindEnable();
         noLookWithoutEnable();
         noneRequesting();
@@ -64,8 +65,35 @@ public final class DeviceEdgesTest {
         check.due("PC", x.register(9), 0x38);
     }
 
+    private static void lookBehindEach() {
+        check.by("Behind each instruction");
+        for (int code = 0; code < 256; code++) {
+            // EI and DI leave no look; three are none, and two need a second byte.
+            if (code != 0xfb && code != 0xf3 && code != 0x27 && code != 0xdd && code != 0xfd && code != 0xed) {
+                lookBehind(code, 0x80);
+            }
+        }
+        for (int second : new int[] {0x42, 0x4a, 0x44, 0x47, 0x4d, 0x56, 0xa0, 0xb0}) {
+            lookBehind(0xed, second);
+        }
+    }
+
+    private static void lookBehind(int first, int second) {
+        ChainBoard x = Devices.prepared(0xfb);
+        x.poke(1, first);
+        x.poke(2, second);
+        x.poke(3, 0x03);
+        x.set(1, 0x0303);
+        x.set(3, 0x0340);
+        x.set(8, 0x0350);
+        Devices.ask(x, 1);
+        x.run(5);
+        check.due("acknowledgements behind " + first + " " + second, x.passed(2), 1);
+        check.due("in service behind " + first + " " + second, x.device(1, 1), 1);
+    }
+
     private static void noLookBehindEnable() {
-        check.by("Behind each instruction (but EI)");
+        check.by("(but EI)");
         ChainBoard x = Devices.prepared(0xfb, 0xfb, 0x00);
         Devices.ask(x, 2);
         check.due("EI", x.run(1), 4);

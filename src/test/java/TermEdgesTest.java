@@ -449,6 +449,8 @@ public final class TermEdgesTest {
             for (int q = 0; q < 8; q++) {
                 check.due("bit " + b + " of " + q + " is 0", behind(q, 255, 0xcb, 0x80 + 8 * b + q), 255 ^ 1 << b);
                 check.due("bit " + b + " of " + q + " is 1", behind(q, 0, 0xcb, 0xc0 + 8 * b + q), 1 << b);
+                check.due("bit " + b + " of " + q + " is 0 still", behind(q, 0, 0xcb, 0x80 + 8 * b + q), 0);
+                check.due("bit " + b + " of " + q + " is 1 still", behind(q, 255, 0xcb, 0xc0 + 8 * b + q), 255);
             }
         }
     }
