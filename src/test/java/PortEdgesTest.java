@@ -28,6 +28,7 @@ public final class PortEdgesTest {
             looksWhenLinesCome();
             looksBehindControls();
             onlyWhatBeginsToHold();
+            goesOnBehindControls();
             requestsIfItMay();
             otherModesHoldNothing();
             atFirst();
@@ -390,6 +391,27 @@ public final class PortEdgesTest {
         check.due("begins again", requesting(x), 1);
         x.lines(p, 0);
         check.due("a request stays when it ends", requesting(x), 1);
+    }
+
+    private static void goesOnBehindControls() {
+        check.by("when it holds, and did not when it was looked at before (behind each byte OUT to control)");
+        int[][] rows = {
+            {0xcf}, {0x8f}, {0xcf, 0xff}, {0x8f, 0x01}, {0xb7}, {0xb7, 0xfe}, {0xa7}, {0x83}, {0x03, 0x83},
+            {0x00}, {0xfe}, {0x81}, {0xfd}};
+        for (int[] row : rows) {
+            ChainBoard x = controls(0xcf, 0xff, 0xb7, 0x00);
+            x.lines(p, 1);
+            more(x, 0xb7, 0x00);
+            more(x, row);
+            check.due("goes on behind " + row[0] + " of " + row.length, requesting(x), 0);
+        }
+        // Directions without the line that is high end it, and the same ones as before begin it anew.
+        ChainBoard x = controls(0xcf, 0xff, 0xb7, 0x00);
+        x.lines(p, 1);
+        more(x, 0xb7, 0x00, 0xcf, 0xfe, 0xcf);
+        check.due("ended by directions", requesting(x), 0);
+        more(x, 0xff);
+        check.due("begun anew by directions", requesting(x), 1);
     }
 
     private static void requestsIfItMay() {
