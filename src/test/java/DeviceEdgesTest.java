@@ -72,18 +72,30 @@ public final class DeviceEdgesTest {
             if (code != 0xfb && code != 0xf3 && code != 0x27 && code != 0xdd && code != 0xfd && code != 0xed) {
                 lookBehind(code, 0x80);
             }
+            if (code < 0x30 || code > 0x37) {
+                lookBehind(0xcb, code);
+            }
         }
-        for (int second : new int[] {0x42, 0x4a, 0x44, 0x47, 0x4d, 0x56, 0xa0, 0xb0}) {
+        for (int second : new int[] {0x42, 0x52, 0x62, 0x72, 0x4a, 0x5a, 0x6a, 0x7a, 0x44, 0x47, 0x4d, 0x56,
+            0xa0, 0xb0}) {
             lookBehind(0xed, second);
         }
     }
 
+    /** With no flag and with all of them, so that every condition is once met and once not. */
     private static void lookBehind(int first, int second) {
+        lookBehind(first, second, 0x0000, 0x0303);
+        lookBehind(first, second, 0x00ff, 0x0103);
+        lookBehind(first, second, 0x00ff, 0x0001);
+    }
+
+    private static void lookBehind(int first, int second, int af, int bc) {
         ChainBoard x = Devices.prepared(0xfb);
+        x.set(0, af);
         x.poke(1, first);
         x.poke(2, second);
         x.poke(3, 0x03);
-        x.set(1, 0x0303);
+        x.set(1, bc);
         x.set(3, 0x0340);
         x.set(8, 0x0350);
         Devices.ask(x, 1);

@@ -15,11 +15,20 @@ public final class StaysTest {
         readyStays();
         outsideAndOtherPorts();
         onlyReturnEndsService();
+        stopLeavesAll();
         for (int p = 0; p < 2; p++) {
             for (Map.Entry<String, Action> between : between(p).entrySet()) {
                 hidden(p, between.getKey(), between.getValue());
             }
             conditionGoesOn(p);
+            for (int mode : new int[] {0x0f, 0x4f}) {
+                strobeLeavesDirectionsAndLines(p, mode);
+                strobeLeavesWatching(p, mode);
+                strobeLeavesWhatIsDue(p, mode);
+                strobeLeavesRequest(p, mode);
+                strobeLeavesCondition(p, mode);
+            }
+            outputStrobeLeavesReceived(p);
         }
         for (int k = 0; k < 2; k++) {
             constantStaysDue(k);
@@ -206,6 +215,49 @@ public final class StaysTest {
         changes("RETI with none in service", x, y -> carryOut(y, 1));
     }
 
+    private static void stopLeavesAll() {
+        for (int second = 0; second < 256; second++) {
+            if (second >= 0x30 && second < 0x38) {
+                stopLeavesAll(0xcb, second);
+            }
+            boolean there = second % 16 == 2 || second % 16 == 10 || second == 0x44 || second == 0x47
+                    || second == 0x4d || second == 0x56 || second == 0x5e || second == 0xa0 || second == 0xb0;
+            if (!there || second < 0x40 || second > 0xb0) {
+                stopLeavesAll(0xed, second);
+            }
+        }
+        stopLeavesAll(0x27, 0);
+        stopLeavesAll(0xdd, 0);
+        stopLeavesAll(0xfd, 0);
+    }
+
+    private static void stopLeavesAll(int first, int second) {
+        ChainBoard x = busy();
+        x.poke4(0x300, 0xed5efb00);
+        carryOut(x, 2);
+        x.poke4(0x300, first << 24 | second << 16);
+        for (int which = 0; which < 11; which++) {
+            x.set(which, 0xf5c3);
+        }
+        x.set(9, 0x300);
+        int[] registers = registers(x);
+        changes("a stop", x, y -> y.run(100));
+        int[] behind = registers(x);
+        for (int i = 0; i < registers.length; i++) {
+            check.due("a stop by " + first + " " + second + ": " + i, behind[i], registers[i]);
+        }
+        check.due("stopped by " + first + " " + second, x.state(), 2);
+    }
+
+    /** The registers, and behind them what has passed. */
+    private static int[] registers(ChainBoard x) {
+        int[] all = new int[16];
+        for (int i = 0; i < 16; i++) {
+            all[i] = i < 13 ? x.register(i) : x.passed(i - 13);
+        }
+        return all;
+    }
+
     /** What may come between two looks at a port and must not touch what it keeps. */
     private static Map<String, Action> between(int p) {
         int data = 2 + 2 * p;
@@ -242,7 +294,8 @@ public final class StaysTest {
 
     private static void received(int p, Action between) {
         int data = 2 + 2 * p;
-        for (int[] modes : new int[][] {{}, {0x0f}, {0xcf, 0xff}, {0xcf, 0x00}, {0x20}, {0x83}, {0x97, 0x0f}}) {
+        for (int[] modes : new int[][] {{}, {0x0f}, {0xcf, 0xff}, {0xcf, 0x00}, {0x20}, {0x83},
+            {0x97, 0x0f}, {0x01}, {0x0d}, {0x87, 0xcf, 0xff, 0x97, 0x00}, {0x97, 0xff, 0xcf, 0xff, 0x97, 0x00}}) {
             ChainBoard x = new ChainBoard();
             out(x, data + 1, 0x4f);
             in(x, data);
@@ -330,6 +383,96 @@ public final class StaysTest {
         carryOut(x, 1);
         x.lines(p, 3);
         check.due("goes on behind RETI", x.device(2 + p, 0), 0);
+    }
+
+    private static ChainBoard withControls(int p, int... bytes) {
+        ChainBoard x = new ChainBoard();
+        controls(x, p, bytes);
+        return x;
+    }
+
+    private static void controls(ChainBoard x, int p, int... bytes) {
+        for (int v : bytes) {
+            out(x, 3 + 2 * p, v);
+        }
+    }
+
+    /** A strobe that is taken, in mode 0 (0f) or 1 (4f). */
+    private static void takenStrobe(ChainBoard x, int p, int mode) {
+        check.by("a strobe that is taken, mode " + mode + ", leaves");
+        int data = 2 + 2 * p;
+        if (mode == 0x0f) {
+            out(x, data, 0x00);
+        } else {
+            in(x, data);
+        }
+        check.due("strobe", x.strobe(p, 0x66), true);
+    }
+
+    private static void strobeLeavesDirectionsAndLines(int p, int mode) {
+        ChainBoard x = withControls(p, 0xcf, 0x0f, mode);
+        x.lines(p, 0xaa);
+        takenStrobe(x, p, mode);
+        controls(x, p, 0xcf);
+        out(x, 2 + 2 * p, 0x55);
+        check.due("directions and lines", in(x, 2 + 2 * p), 0x5a);
+    }
+
+    private static void strobeLeavesWatching(int p, int mode) {
+        // All of the lines 0 and 1 high, or any of them low; it may request only behind the strobe.
+        for (int control : new int[] {0x77, 0x17}) {
+            boolean allHigh = control == 0x77;
+            ChainBoard x = withControls(p, 0xcf, 0xff, control, 0xfc, mode);
+            takenStrobe(x, p, mode);
+            x.lines(p, allHigh ? 0x00 : 0xff);
+            controls(x, p, 0x83, 0xcf, 0xff);
+            for (int lines : allHigh ? new int[] {0x01, 0xfe} : new int[] {0x03, 0x0f}) {
+                x.lines(p, lines);
+                check.due("the mask, ALL and HIGH, by " + control, x.device(2 + p, 0), 0);
+            }
+            x.lines(p, allHigh ? 0x03 : 0xfe);
+            check.due("the condition, by " + control, x.device(2 + p, 0), 1);
+        }
+    }
+
+    private static void strobeLeavesWhatIsDue(int p, int mode) {
+        ChainBoard x = withControls(p, mode, 0x97);
+        takenStrobe(x, p, mode);
+        controls(x, p, 0xf0);
+        check.due("that a mask is due", x.device(2 + p, 2), 0);
+        controls(x, p, 0x0e);
+        check.due("that no more is due", x.device(2 + p, 2), 0x0e);
+    }
+
+    private static void strobeLeavesRequest(int p, int mode) {
+        ChainBoard x = withControls(p, mode, 0x83);
+        takenStrobe(x, p, mode);
+        check.due("a request of its own", x.device(2 + p, 0), 1);
+        controls(x, p, 0x03);
+        takenStrobe(x, p, mode);
+        check.due("the request, though it may not request", x.device(2 + p, 0), 1);
+    }
+
+    /** The strobe's own request is acknowledged, so that the condition's shows. */
+    private static void strobeLeavesCondition(int p, int mode) {
+        ChainBoard x = withControls(p, 0xcf, 0xff, 0xb7, 0x00, mode);
+        x.lines(p, 0x01);
+        takenStrobe(x, p, mode);
+        x.poke4(0x300, 0xfb000000);
+        carryOut(x, 2);
+        check.due("acknowledged", x.device(2 + p, 0), 0);
+        controls(x, p, 0xcf);
+        check.due("a condition that did not hold before", x.device(2 + p, 0), 1);
+    }
+
+    private static void outputStrobeLeavesReceived(int p) {
+        ChainBoard x = withControls(p, 0x4f);
+        in(x, 2 + 2 * p);
+        x.strobe(p, 0xe7);
+        controls(x, p, 0x0f);
+        takenStrobe(x, p, 0x0f);
+        controls(x, p, 0x4f);
+        check.due("the received byte", in(x, 2 + 2 * p), 0xe7);
     }
 
     private static void constantStaysDue(int k) {
